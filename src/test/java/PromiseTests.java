@@ -185,7 +185,7 @@ public final class PromiseTests {
         x.keep(1, 9);
         x.give(4);
         due.is("4: splits before", () -> x.count(8), 2);
-        x.family(0, 0 + 2, 4, 0);
+        x.family(0, 2, 4, 0);
         due.is("4: a bad class changes nothing", () -> x.build(3), -3);
         due.is("4: the block is still there", () -> x.block(0, 0), 1);
         x.free(0);
@@ -472,18 +472,10 @@ public final class PromiseTests {
         x.give(5);
         x.give(4);
         x.give(4);
-        shows("9: neighbours", x, "0:5 29:1=4 33:1 36:1=4 40:2=5".replace("33:1 ", "").replace("29:1=4", "29:2=4"));
-        int[] side = {1, 1, -1, -1};
-        for (int i = 0; i < side.length; i++) {
-            int at = i;
-            due.is("9: to 40 at " + i, () -> x.path(40, at), side[at]);
-        }
-        side = new int[] {1, 0, 1, -1};
-        int[] toLeaf = side;
-        for (int i = 0; i < side.length; i++) {
-            int at = i;
-            due.is("9: to 36 at " + i, () -> x.path(36, at), toLeaf[at]);
-        }
+        shows("9: neighbours", x, "0:5 29:2=4 36:1=4 40:2=5");
+        pathIs(x, 40, 1, 1, -1, -1);
+        pathIs(x, 36, 1, 0, 1, -1);
+        pathIs(x, 29, 1, 0, 0, -1);
         due.is("9: far below", () -> x.path(36, Integer.MAX_VALUE), -1);
         due.noArgument("9: above the top", () -> x.path(36, -1));
         due.noArgument("9: far above", () -> x.path(36, Integer.MIN_VALUE));
@@ -491,6 +483,13 @@ public final class PromiseTests {
         BuddyRoof top = halves(2, 4);
         top.give(8);
         due.is("9: the top's own", () -> top.path(0, 0), -1);
+    }
+
+    private static void pathIs(BuddyRoof x, int address, int... side) {
+        for (int i = 0; i < side.length; i++) {
+            int depth = i;
+            due.is("9: to " + address + " at " + i, () -> x.path(address, depth), side[depth]);
+        }
     }
 
     private static void keeps() {
@@ -509,7 +508,7 @@ public final class PromiseTests {
         x.give(1);
         x.free(0);
         x.free(4);
-        shows("10: as many as are kept aren't joined, 12 is free too", x, "0:2 8:1=1 12:1 16:3".replace("0:2", "0:2"));
+        shows("10: 12 is free, too, so that 4 is one too many", x, "0:2 8:1=1 12:1 16:3");
         x.build(4);
         x.keep(1, 2);
         for (int i = 0; i < 4; i++) {
@@ -690,19 +689,20 @@ public final class PromiseTests {
         BuddyRoof lop = new BuddyRoof();
         lop.family(2, 9, 4, 0);
         lop.build(9);
-        due.is("15: weighted", () -> lop.room(9), giveAll(lop, 9));
-        lop.build(9);
-        due.is("15: weighted leaves", () -> lop.room(1), giveAll(lop, 1));
+        for (int words = 1; words <= 97; words++) {
+            int w = words;
+            lop.build(9);
+            due.is("15: weighted, " + w, () -> lop.room(w), giveAll(lop, w));
+        }
     }
 
     private static int giveAll(BuddyRoof x, int w) {
+        x.build(9);
         int given = 0;
-        BuddyRoof same = new BuddyRoof();
-        same.family(2, 9, 4, 0);
-        same.build(9);
-        while (same.give(w) >= 0) {
+        while (x.give(w) >= 0) {
             given++;
         }
+        x.build(9);
         return given;
     }
 
@@ -843,31 +843,26 @@ public final class PromiseTests {
         x.give(1);
         due.is("17: there are 256 blocks", () -> x.replay(256), 256);
         due.is("17: all are given", () -> x.count(4), 256);
-        x.keep(1, 255);
         x.free(0);
         x.free(4);
-        x.load(0, 4);
-        x.load(1, 4);
-        x.load(2, 4);
         due.is("17: two have room again", () -> x.replay(3), 3);
-        x.free(1020);
-        x.free(1016);
-        x.give(4);
-        x.give(4);
-        due.is("17: nothing is given at 256 blocks", () -> x.replay(1), 1);
-        BuddyRoof kept = halves(11, 4);
+
+        BuddyRoof apart = halves(12, 4);
         for (int i = 0; i < 256; i++) {
-            kept.load(i, 4);
+            apart.load(i, 9);
         }
-        kept.replay(256);
-        kept.keep(2, 255);
-        kept.keep(3, 255);
-        kept.free(0);
-        kept.free(4);
-        kept.give(16);
-        kept.free(1024);
-        kept.give(5);
-        shows("17: nor joined", kept, picture(kept));
-        due.is("17: all are done", () -> kept.replay(0), 0);
+        apart.keep(2, 255);
+        apart.give(8);
+        apart.give(8);
+        apart.free(0);
+        apart.free(8);
+        due.is("17: 256 gives", () -> apart.replay(256), 0);
+        due.is("17: at 256 blocks the first entry can't be done", () -> apart.replay(256), 1);
+        due.is("17: and nothing is joined", () -> apart.nodes(2, 0), 2);
+        due.noState("5: no words at 256 blocks", () -> apart.give(9));
+        due.is("5: nor is anything joined", () -> apart.nodes(2, 0), 2);
+        apart.load(0, 0);
+        due.is("17: joining can be done, giving can't", () -> apart.replay(256), 2);
+        due.is("17: it is joined then", () -> apart.nodes(3, 1), 0);
     }
 }

@@ -1,0 +1,229 @@
+import java.util.Random;
+
+/** Long runs of calls, made from fixed seeds, whose every answer is compared with NaiveRoof's. */
+public final class ModelTests {
+    private static final int CALLS = 500;
+    private static final Due due = new Due("ModelTests");
+
+    private final Random dice;
+    private final String title;
+    private final BuddyRoof real = new BuddyRoof();
+    private final NaiveRoof naive = new NaiveRoof();
+    private int words = 64;
+
+    private ModelTests(long seed) {
+        dice = new Random(seed);
+        title = "seed " + seed;
+    }
+
+    public static void main(String[] args) {
+        int seeds = args.length > 0 ? Integer.parseInt(args[0]) : 600;
+        for (int seed = 1; seed <= seeds; seed++) {
+            new ModelTests(seed).play();
+        }
+        due.close();
+    }
+
+    private void play() {
+        tellRule();
+        build(1 + dice.nextInt(24));
+        for (int call = 0; call < CALLS; call++) {
+            int what = dice.nextInt(200);
+            if (what == 0) {
+                tellRule();
+            } else if (what == 1) {
+                build(1 + dice.nextInt(24));
+            } else if (what == 2) {
+                oddCall();
+            } else if (what < 6) {
+                playScript();
+            } else {
+                use(what);
+            }
+        }
+        lookAtAll();
+    }
+
+    private void both(String call, Due.Asking got, Due.Asking want) {
+        due.same(title + ": " + call, Due.answer(got), Due.answer(want));
+    }
+
+    private void bothDo(String call, Due.Telling got, Due.Telling want) {
+        due.same(title + ": " + call, Due.outcome(got), Due.outcome(want));
+    }
+
+    private void tellRule() {
+        if (dice.nextInt(3) == 0) {
+            tellRows();
+            return;
+        }
+        int kind = dice.nextInt(3);
+        int n = kind == 0 ? 1 + dice.nextInt(9) : kind == 1 ? 1 + dice.nextInt(13) : 1 + dice.nextInt(18);
+        int a = 4 + dice.nextInt(9);
+        int b = 4 + dice.nextInt(9);
+        bothDo("family(" + kind + ", " + n + ", " + a + ", " + b + ")",
+                () -> real.family(kind, n, a, b), () -> naive.family(kind, n, a, b));
+    }
+
+    private void tellRows() {
+        int[] order = new int[25];
+        for (int k = 1; k <= 24; k++) {
+            order[k] = k;
+        }
+        for (int k = 24; k > 1; k--) {
+            int other = 1 + dice.nextInt(k);
+            int kept = order[k];
+            order[k] = order[other];
+            order[other] = kept;
+        }
+        int[] size = new int[25];
+        int leaves = 1 + dice.nextInt(6);
+        for (int i = 1; i <= 24; i++) {
+            int left = i <= leaves ? 0 : order[Math.max(1, i - 1 - dice.nextInt(5))];
+            int right = i <= leaves ? 0 : order[1 + dice.nextInt(i - 1)];
+            int k = order[i];
+            size[k] = left == 0 ? 4 + dice.nextInt(8) : size[left] + size[right];
+            if (size[k] > 4000) {
+                left = 0;
+                right = 0;
+                size[k] = 5;
+            }
+            if (dice.nextInt(150) == 0) {
+                size[k] += dice.nextInt(5) - 2;
+            }
+            tellRow(k, size[k], left, right);
+        }
+    }
+
+    private void tellRow(int k, int size, int left, int right) {
+        bothDo("row(" + k + ", " + size + ", " + left + ", " + right + ")",
+                () -> real.row(k, size, left, right), () -> naive.row(k, size, left, right));
+    }
+
+    private void build(int top) {
+        both("build(" + top + ")", () -> real.build(top), () -> naive.build(top));
+        String total = Due.answer(() -> naive.count(0));
+        words = total.startsWith("throws") ? 64 : Integer.parseInt(total);
+    }
+
+    private int someWords() {
+        return switch (dice.nextInt(8)) {
+            case 0 -> 1 + dice.nextInt(words + 2);
+            case 1, 2 -> 1 + dice.nextInt(words / 4 + 1);
+            default -> 1 + dice.nextInt(Math.min(words, 24) + 1);
+        };
+    }
+
+    private int someAddress() {
+        String many = Due.answer(() -> naive.count(4));
+        String all = Due.answer(() -> naive.count(5));
+        if (many.startsWith("throws") || dice.nextInt(20) == 0) {
+            return dice.nextInt(words + 8) - 4;
+        }
+        int unsplit = Integer.parseInt(many) + Integer.parseInt(all);
+        int from = dice.nextInt(unsplit);
+        for (int i = 0; i < unsplit; i++) {
+            int at = (from + i) % unsplit;
+            if (naive.leaf(at, 2) > 0) {
+                return naive.leaf(at, 0);
+            }
+        }
+        return 0;
+    }
+
+    private void use(int what) {
+        int w = someWords();
+        int k = 1 + dice.nextInt(24);
+        int which = dice.nextInt(5) - 1;
+        if (what < 70) {
+            both("give(" + w + ")", () -> real.give(w), () -> naive.give(w));
+        } else if (what < 110) {
+            int address = someAddress();
+            bothDo("free(" + address + ")", () -> real.free(address), () -> naive.free(address));
+        } else if (what < 125) {
+            int address = someAddress();
+            both("change(" + address + ", " + w + ")", () -> real.change(address, w), () -> naive.change(address, w));
+        } else if (what < 135) {
+            int address = someAddress();
+            both("block(" + address + ", " + which + ")",
+                    () -> real.block(address, which), () -> naive.block(address, which));
+        } else if (what < 145) {
+            int address = someAddress();
+            int i = dice.nextInt(10) - 1;
+            both("path(" + address + ", " + i + ")", () -> real.path(address, i), () -> naive.path(address, i));
+        } else if (what < 153) {
+            int many = dice.nextInt(4) == 0 ? dice.nextInt(258) - 1 : dice.nextInt(6);
+            bothDo("keep(" + k + ", " + many + ")", () -> real.keep(k, many), () -> naive.keep(k, many));
+        } else if (what < 156) {
+            both("join()", () -> real.join(), () -> naive.join());
+        } else if (what < 166) {
+            both("nodes(" + k + ", " + which + ")", () -> real.nodes(k, which), () -> naive.nodes(k, which));
+        } else if (what < 176) {
+            int i = dice.nextInt(30) - 1;
+            both("leaf(" + i + ", " + which + ")", () -> real.leaf(i, which), () -> naive.leaf(i, which));
+        } else if (what < 190) {
+            int number = dice.nextInt(12) - 1;
+            both("count(" + number + ")", () -> real.count(number), () -> naive.count(number));
+        } else {
+            both("room(" + w + ")", () -> real.room(w), () -> naive.room(w));
+        }
+    }
+
+    private void oddCall() {
+        int[] odd = {Integer.MIN_VALUE, Integer.MAX_VALUE, -1, 0, 25, 32, 33, 256, 257};
+        int a = odd[dice.nextInt(odd.length)];
+        int b = odd[dice.nextInt(odd.length)];
+        both("give(" + a + ")", () -> real.give(a), () -> naive.give(a));
+        bothDo("free(" + a + ")", () -> real.free(a), () -> naive.free(a));
+        both("change(" + a + ", " + b + ")", () -> real.change(a, b), () -> naive.change(a, b));
+        both("block(" + a + ", " + b + ")", () -> real.block(a, b), () -> naive.block(a, b));
+        both("path(" + a + ", " + b + ")", () -> real.path(a, b), () -> naive.path(a, b));
+        bothDo("keep(" + a + ", " + b + ")", () -> real.keep(a, b), () -> naive.keep(a, b));
+        both("nodes(" + a + ", " + b + ")", () -> real.nodes(a, b), () -> naive.nodes(a, b));
+        both("leaf(" + a + ", " + b + ")", () -> real.leaf(a, b), () -> naive.leaf(a, b));
+        both("count(" + a + ")", () -> real.count(a), () -> naive.count(a));
+        both("room(" + a + ")", () -> real.room(a), () -> naive.room(a));
+        bothDo("load(" + a + ", " + b + ")", () -> real.load(a, b), () -> naive.load(a, b));
+        both("replay(" + a + ")", () -> real.replay(a), () -> naive.replay(a));
+        both("build(" + a + ")", () -> real.build(a), () -> naive.build(a));
+        bothDo("family(" + a + ", " + b + ", " + a + ", " + b + ")",
+                () -> real.family(a, b, a, b), () -> naive.family(a, b, a, b));
+        tellRow(a, b, a, b);
+    }
+
+    private void playScript() {
+        int n = dice.nextInt(257);
+        boolean filling = dice.nextBoolean();
+        for (int i = 0; i < n; i++) {
+            int entry = i;
+            int choice = dice.nextInt(filling ? 60 : 10);
+            int v = choice == 0 ? 0 : choice < 5 && i > 0 ? -1 - dice.nextInt(i) : 1 + dice.nextInt(filling ? 6 : 20);
+            bothDo("load(" + i + ", " + v + ")", () -> real.load(entry, v), () -> naive.load(entry, v));
+        }
+        both("replay(" + n + ")", () -> real.replay(n), () -> naive.replay(n));
+        lookAtAll();
+    }
+
+    private void lookAtAll() {
+        for (int what = 0; what < 10; what++) {
+            int number = what;
+            both("count(" + what + ")", () -> real.count(number), () -> naive.count(number));
+        }
+        for (int i = 0; i < 40; i++) {
+            int at = i;
+            for (int what = 0; what < 3; what++) {
+                int which = what;
+                both("leaf(" + i + ", " + what + ")", () -> real.leaf(at, which), () -> naive.leaf(at, which));
+            }
+        }
+        for (int i = 1; i <= 24; i++) {
+            int k = i;
+            for (int what = 0; what < 3; what++) {
+                int which = what;
+                both("nodes(" + k + ", " + what + ")", () -> real.nodes(k, which), () -> naive.nodes(k, which));
+            }
+            int w = 1 << (i % 8);
+            both("room(" + w + ")", () -> real.room(w), () -> naive.room(w));
+        }
+    }
+}

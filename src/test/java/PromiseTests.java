@@ -20,6 +20,7 @@ public final class PromiseTests {
         changes();
         blocks();
         paths();
+        deepestPaths();
         keeps();
         keepsByTheFreedClass();
         joins();
@@ -483,6 +484,48 @@ public final class PromiseTests {
         BuddyRoof top = halves(2, 4);
         top.give(8);
         due.is("9: the top's own", () -> top.path(0, 0), -1);
+    }
+
+    // All 24 classes lie on one way: the greater child is always the one that holds.
+    private static void deepestPaths() {
+        for (int side = 0; side <= 1; side++) {
+            int taken = side;
+            BuddyRoof x = new BuddyRoof();
+            x.row(1, 4, 0, 0);
+            x.row(2, 8, 1, 1);
+            for (int k = 3; k <= 24; k++) {
+                x.row(k, 4 * k, taken == 0 ? k - 1 : 1, taken == 0 ? 1 : k - 1);
+            }
+            due.is("4: a chain of 24", () -> x.build(24), 24);
+            due.is("15: room in the chain", () -> x.room(1), 24);
+            due.is("15: room for 8 words", () -> x.room(8), 1);
+            int address = taken == 0 ? 0 : 88;
+            due.is("5: down the chain", () -> x.give(8), address);
+            due.is("8: 22 deep", () -> x.block(address, 2), 22);
+            due.is("14: 22 splits", () -> x.count(8), 22);
+            for (int i = 0; i < 22; i++) {
+                x.give(4);
+            }
+            x.free(address);
+            int lowest = taken == 0 ? 0 : 88;
+            due.is("5: the leaf at its end", () -> x.give(1), lowest);
+            due.is("8: 23 deep", () -> x.block(lowest, 2), 23);
+            due.is("9: the last side", () -> x.path(lowest, 22), 0);
+            due.is("9: the one before", () -> x.path(lowest, 21), taken);
+            due.is("9: the first side", () -> x.path(lowest, 0), taken);
+            due.is("9: no deeper", () -> x.path(lowest, 23), -1);
+            due.is("13: 24 nodes", () -> x.leaf(23, 0), 92);
+            due.is("13: no more", () -> x.leaf(24, 0), -1);
+            for (int at = 0; at < 96; at += 4) {
+                int each = at;
+                if (at != 92 || taken == 0) {
+                    due.same("6: the chain's " + at, Due.outcome(() -> x.free(each)),
+                            at == (taken == 0 ? 4 : -1) ? "throws.IllegalArgumentException" : "done");
+                }
+            }
+            shows("6: all is joined up to the top", x, "0:24");
+            due.is("14: 23 joins and 23 splits", () -> x.count(7) * 100 + x.count(8), 2323);
+        }
     }
 
     private static void pathIs(BuddyRoof x, int address, int... side) {

@@ -67,6 +67,14 @@ final class Due {
         same(what, outcome(call), "throws.IllegalStateException");
     }
 
+    void shows(String what, Roof x, String want) {
+        same(what, x.picture(), want);
+    }
+
+    void counts(String what, Roof x, String want) {
+        same(what + ", all counts", x.counts(), want);
+    }
+
     void close() {
         System.out.println(title + ": " + asked + " answers, " + wrong + " of them wrong");
         if (wrong != 0) {

@@ -98,12 +98,18 @@ public final class FaceTests {
     }
 
     private static void source(String text) {
-        for (String word : new String[] {"try", "catch", "finally", "synchronized", "assert", "package", "double",
-            "float", "static \\{", "->", "::", "Exact\\(", "System\\.(?!arraycopy)", "while \\(true"}) {
-            due.same("'" + word + "' in the source", "" + Pattern.compile("(?<!\\w)" + word + "(?!\\w)").matcher(
-                    text.replaceAll("//.*", "").replaceAll("(?s)/\\*.*?\\*/", "")).find(), "false");
+        String code = text.replaceAll("//.*", "").replaceAll("(?s)/\\*.*?\\*/", "");
+        for (String word : new String[] {"finally", "synchronized", "assert", "package", "static \\{", "::", "Exact\\(",
+            "System\\.(?!arraycopy)", "getMessage", "(Throwable|Exception|Error) \\w+\\) \\{"}) {
+            due.same("'" + word + "' in the source", "" + Pattern.compile("(?<!\\w)" + word).matcher(code).find(), "false");
         }
-        due.same("imports", text.lines().filter(line -> line.startsWith("import")).toList().toString(),
-                "[import java.util.Arrays;]");
+        for (String line : code.lines().toList()) {
+            boolean arrow = line.contains("->") && !line.strip().matches("(case|default)\\b.*");
+            due.same("a lambda in '" + line.strip() + "'", "" + arrow, "false");
+        }
+        for (String line : code.lines().filter(each -> each.startsWith("import")).toList()) {
+            due.same("'" + line + "' is of the library",
+                    "" + line.matches("import java\\.util\\.(Arrays|ArrayList|List|Iterator|NoSuchElementException);"), "true");
+        }
     }
 }

@@ -1,15 +1,18 @@
 import java.util.Random;
 
-/** Long runs of calls, made from fixed seeds, whose every answer is compared with NaiveRoof's. */
+/** Runs of 512 calls, made from fixed seeds, whose every answer is compared with NaiveRoof's. */
 public final class ModelTests {
-    private static final int CALLS = 500;
+    // The dearest step, an odd call or rows told anew, and then a look at all.
+    private static final int CALLS_OF_A_STEP = 26;
+    private static final int CALLS_OF_A_LOOK = 100;
     private static final Due due = new Due("ModelTests");
 
     private final Random dice;
     private final String title;
-    private final BuddyRoof real = new BuddyRoof();
+    private final Roof real = new Roof();
     private final NaiveRoof naive = new NaiveRoof();
     private int words = 64;
+    private int likelyTop = 1;
 
     private ModelTests(long seed) {
         dice = new Random(seed);
@@ -17,7 +20,7 @@ public final class ModelTests {
     }
 
     public static void main(String[] args) {
-        int seeds = args.length > 0 ? Integer.parseInt(args[0]) : 600;
+        int seeds = args.length > 0 ? Integer.parseInt(args[0]) : 2400;
         for (int seed = 1; seed <= seeds; seed++) {
             new ModelTests(seed).play();
         }
@@ -26,17 +29,20 @@ public final class ModelTests {
 
     private void play() {
         tellRule();
-        build(1 + dice.nextInt(24));
-        for (int call = 0; call < CALLS; call++) {
+        build(someTop());
+        if (dice.nextInt(4) == 0) {
+            playScript(dice.nextInt(257));
+        }
+        while (real.callsLeft() > CALLS_OF_A_STEP + CALLS_OF_A_LOOK) {
             int what = dice.nextInt(200);
             if (what == 0) {
                 tellRule();
             } else if (what == 1) {
-                build(1 + dice.nextInt(24));
+                build(someTop());
             } else if (what == 2) {
-                oddCall();
+                oddCalls();
             } else if (what < 6) {
-                playScript();
+                playScript(dice.nextInt(CALLS_OF_A_STEP));
             } else {
                 use(what);
             }
@@ -61,6 +67,7 @@ public final class ModelTests {
         int n = kind == 0 ? 1 + dice.nextInt(9) : kind == 1 ? 1 + dice.nextInt(13) : 1 + dice.nextInt(18);
         int a = 4 + dice.nextInt(9);
         int b = 4 + dice.nextInt(9);
+        likelyTop = n;
         bothDo("family(" + kind + ", " + n + ", " + a + ", " + b + ")",
                 () -> real.family(kind, n, a, b), () -> naive.family(kind, n, a, b));
     }
@@ -93,6 +100,18 @@ public final class ModelTests {
             }
             tellRow(k, size[k], left, right);
         }
+        likelyTop = order[20 + dice.nextInt(5)];
+    }
+
+    private int someTop() {
+        return dice.nextInt(8) == 0 ? 1 + dice.nextInt(24) : likelyTop;
+    }
+
+    private int someClass() {
+        int at = dice.nextInt(20);
+        String met = Due.answer(() -> naive.leaf(at, 1));
+        return dice.nextInt(4) == 0 || met.startsWith("throws") || met.equals("-1")
+                ? 1 + dice.nextInt(24) : Integer.parseInt(met);
     }
 
     private void tellRow(int k, int size, int left, int right) {
@@ -133,7 +152,7 @@ public final class ModelTests {
 
     private void use(int what) {
         int w = someWords();
-        int k = 1 + dice.nextInt(24);
+        int k = someClass();
         int which = dice.nextInt(5) - 1;
         if (what < 70) {
             both("give(" + w + ")", () -> real.give(w), () -> naive.give(w));
@@ -169,7 +188,7 @@ public final class ModelTests {
         }
     }
 
-    private void oddCall() {
+    private void oddCalls() {
         int[] odd = {Integer.MIN_VALUE, Integer.MAX_VALUE, -1, 0, 25, 32, 33, 256, 257};
         int a = odd[dice.nextInt(odd.length)];
         int b = odd[dice.nextInt(odd.length)];
@@ -191,8 +210,7 @@ public final class ModelTests {
         tellRow(a, b, a, b);
     }
 
-    private void playScript() {
-        int n = dice.nextInt(257);
+    private void playScript(int n) {
         boolean filling = dice.nextBoolean();
         for (int i = 0; i < n; i++) {
             int entry = i;
@@ -201,7 +219,6 @@ public final class ModelTests {
             bothDo("load(" + i + ", " + v + ")", () -> real.load(entry, v), () -> naive.load(entry, v));
         }
         both("replay(" + n + ")", () -> real.replay(n), () -> naive.replay(n));
-        lookAtAll();
     }
 
     private void lookAtAll() {
@@ -209,21 +226,21 @@ public final class ModelTests {
             int number = what;
             both("count(" + what + ")", () -> real.count(number), () -> naive.count(number));
         }
-        for (int i = 0; i < 40; i++) {
+        for (int k = 1; k <= 24; k++) {
+            int of = k;
+            int what = k % 3;
+            both("nodes(" + k + ", " + what + ")", () -> real.nodes(of, what), () -> naive.nodes(of, what));
+        }
+        for (int bits = 0; bits < 8; bits++) {
+            int w = 1 << bits;
+            both("room(" + w + ")", () -> real.room(w), () -> naive.room(w));
+        }
+        for (int i = 0; real.callsLeft() >= 3; i++) {
             int at = i;
             for (int what = 0; what < 3; what++) {
                 int which = what;
                 both("leaf(" + i + ", " + what + ")", () -> real.leaf(at, which), () -> naive.leaf(at, which));
             }
-        }
-        for (int i = 1; i <= 24; i++) {
-            int k = i;
-            for (int what = 0; what < 3; what++) {
-                int which = what;
-                both("nodes(" + k + ", " + what + ")", () -> real.nodes(k, which), () -> naive.nodes(k, which));
-            }
-            int w = 1 << (i % 8);
-            both("room(" + w + ")", () -> real.room(w), () -> naive.room(w));
         }
     }
 }

@@ -23,17 +23,17 @@ public final class WeightTests {
     }
 
     private static void lightObjects() {
-        BuddyRoof[] many = new BuddyRoof[512];
+        Roof[] many = new Roof[512];
         long before = made();
         for (int i = 0; i < many.length; i++) {
-            many[i] = new BuddyRoof();
+            many[i] = new Roof();
         }
         lighter("512 objects", made() - before, ROOM_BYTES / 4);
         due.is("the last is one of its own", () -> many[511].build(1), -1);
     }
 
     private static void rebuilt() {
-        BuddyRoof x = new BuddyRoof();
+        Roof x = new Roof();
         x.family(0, 21, 4, 0);
         for (int i = 0; i < 200; i++) {
             x.load(i, i % 2 == 0 ? 1 + i : -i);
@@ -42,17 +42,17 @@ public final class WeightTests {
         x.replay(200);
         int sum = 0;
         long before = made();
-        for (int i = 0; i < 50; i++) {
+        for (int i = 0; i < 40; i++) {
             x.family(0, 21, 4, 0);
             sum += x.build(21) + x.replay(200) + x.room(4) + x.count(6) + x.count(9) + x.join();
         }
-        lighter("what is built again and again", made() - before, 10_000);
-        due.same("its answers", "" + sum, "" + 50 * (21 + (1 << 20) + (1 << 22) + 1));
+        lighter("what is built again and again", made() - before, ROOM_BYTES / 64);
+        due.same("its answers", "" + sum, "" + 40 * (21 + (1 << 20) + (1 << 22) + 1));
     }
 
     // Chains that leave a small node behind at each step, kept apart in all sizes.
     private static void rippedApart() {
-        BuddyRoof x = new BuddyRoof();
+        Roof x = new Roof();
         long before = made();
         x.row(1, 4, 0, 0);
         x.row(2, 8, 0, 0);

@@ -108,12 +108,7 @@ public final class BlockEdgeTests {
     /** 256 blocks of class 2 in 16384 words, request 5 each, made by 64 entries of the script. */
     private static Roof full() {
         Roof x = Roof.halves(13, 4);
-        for (int i = 0; i < 64; i++) {
-            x.load(i, 5);
-        }
-        for (int i = 0; i < 4; i++) {
-            x.replay(64);
-        }
+        x.giveByScript(64, 4, 5);
         return x;
     }
 
@@ -336,19 +331,8 @@ public final class BlockEdgeTests {
         due.noArgument("8: no more", () -> x.block(8, 1));
     }
 
-    /** Class k, of 4 k words, is of class k - 1 and, at the other side, class 1. */
-    private static Roof chain(int side) {
-        Roof x = new Roof();
-        x.row(1, 4, 0, 0);
-        for (int k = 2; k <= 24; k++) {
-            x.row(k, 4 * k, side == 0 ? k - 1 : 1, side == 0 ? 1 : k - 1);
-        }
-        x.build(24);
-        return x;
-    }
-
     private static void blockDepths() {
-        Roof x = chain(0);
+        Roof x = Roof.chain(0);
         due.is("8: one word less than all", () -> x.give(93), 0);
         due.is("8: the top lies at depth 0", () -> x.block(0, 2), 0);
         x.free(0);
@@ -358,7 +342,7 @@ public final class BlockEdgeTests {
             due.is("8: class " + k + " lies deeper", () -> x.block(0, 2), 24 - each);
             x.free(0);
         }
-        Roof y = chain(0);
+        Roof y = Roof.chain(0);
         y.give(8);
         y.giveTimes(22, 4);
         y.free(0);
@@ -380,7 +364,7 @@ public final class BlockEdgeTests {
     private static void pathDepths() {
         for (int side = 0; side <= 1; side++) {
             int taken = side;
-            Roof x = chain(side);
+            Roof x = Roof.chain(side);
             int address = side == 0 ? 0 : 88;
             x.give(8);
             for (int i = 0; i < 22; i++) {

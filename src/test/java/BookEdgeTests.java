@@ -18,6 +18,8 @@ public final class BookEdgeTests {
         nodesTellThreeThings();
         nodesWithoutAny();
         nodesOfOneAndOfMany();
+        nodesOfUnlikeBuddies();
+        nodesOfAll24Classes();
         leavesFrom0On();
         leafTellsThreeThings();
         leafOfAFullMemory();
@@ -32,16 +34,23 @@ public final class BookEdgeTests {
         roomChangesNothing();
         roomOnceAllIsJoined();
         roomAsItIsGiven();
+        roomOfAll24Classes();
         due.close();
     }
 
-    private static void keepWantsAReachedClass() {
+    /** Classes 2 and 23 are reached; 3 and 24 are told, too. */
+    private static Roof gaps() {
         Roof x = new Roof();
         x.row(2, 4, 0, 0);
         x.row(3, 4, 0, 0);
         x.row(23, 8, 2, 2);
         x.row(24, 12, 23, 2);
         x.build(23);
+        return x;
+    }
+
+    private static void keepWantsAReachedClass() {
+        Roof x = gaps();
         for (int k : ODD) {
             due.noArgument("10: class " + k, () -> x.keep(k, 1));
         }
@@ -148,12 +157,7 @@ public final class BookEdgeTests {
     }
 
     private static void nodesWantAReachedClass() {
-        Roof x = new Roof();
-        x.row(2, 4, 0, 0);
-        x.row(3, 4, 0, 0);
-        x.row(23, 8, 2, 2);
-        x.row(24, 12, 23, 2);
-        x.build(23);
+        Roof x = gaps();
         for (int k : ODD) {
             due.noArgument("12: class " + k, () -> x.nodes(k, 0));
         }
@@ -217,6 +221,49 @@ public final class BookEdgeTests {
         nodesAre(x, 2, 1, 0, 0);
     }
 
+    private static void nodesOfUnlikeBuddies() {
+        Roof x = new Roof();
+        x.family(1, 4, 4, 5);
+        x.build(4);
+        x.giveTimes(2, 4);
+        due.shows("12: unlike buddies", x, "0:2 5:1=4 9:2=4");
+        nodesAre(x, 2, 1, 0, 0);
+        x.free(5);
+        nodesAre(x, 1, 0, -1, -1);
+        nodesAre(x, 2, 0, -1, -1);
+        nodesAre(x, 3, 1, 0, 0);
+        x.free(9);
+        nodesAre(x, 2, 0, -1, -1);
+        nodesAre(x, 3, 0, -1, -1);
+        nodesAre(x, 4, 1, 0, 0);
+    }
+
+    private static void nodesOfAll24Classes() {
+        Roof x = Roof.chain(0);
+        nodesAre(x, 24, 1, 0, 0);
+        nodesAre(x, 23, 0, -1, -1);
+        x.give(4);
+        nodesAre(x, 24, 0, -1, -1);
+        nodesAre(x, 23, 1, 0, 0);
+        due.is("12: the top isn't free", () -> x.give(96), -1);
+        due.is("12: the next is", () -> x.give(92), 0);
+        nodesAre(x, 23, 0, -1, -1);
+        x.free(0);
+        for (int w = 4 * 22; w >= 8; w -= 4) {
+            x.give(w);
+            x.free(0);
+        }
+        x.keepAll(24, 255);
+        x.give(8);
+        for (int k = 3; k <= 24; k++) {
+            int each = k;
+            due.is("12: none of class " + k, () -> x.nodes(each, 0), 0);
+        }
+        nodesAre(x, 1, 21, 8, 88);
+        x.free(0);
+        nodesAre(x, 2, 1, 0, 0);
+    }
+
     private static void leavesFrom0On() {
         Roof x = Roof.halves(4, 4);
         for (int i : new int[] {LEAST, -1, 1, 2, GREATEST}) {
@@ -263,10 +310,7 @@ public final class BookEdgeTests {
 
     private static void leafOfAFullMemory() {
         Roof x = Roof.halves(10, 4);
-        x.loadAll(4, 4, 4, 4, 4, 4, 4, 4, 4, 4, 4, 4, 4, 4, 4, 4);
-        for (int i = 0; i < 16; i++) {
-            x.replay(16);
-        }
+        x.giveByScript(16, 16, 4);
         due.is("13: the first of 256 blocks", () -> x.leaf(0, 2), 4);
         due.is("13: the last of them", () -> x.leaf(255, 0), 1020);
         due.is("13: its request", () -> x.leaf(255, 2), 4);
@@ -374,10 +418,7 @@ public final class BookEdgeTests {
         Roof x = Roof.halves(21, 4);
         due.is("15: a million", () -> x.room(4), 1 << 20);
         due.is("15: half of it", () -> x.room(5), 1 << 19);
-        x.loadAll(4, 4, 4, 4, 4, 4, 4, 4, 4, 4, 4, 4, 4, 4, 4, 4);
-        for (int i = 0; i < 16; i++) {
-            x.replay(16);
-        }
+        x.giveByScript(16, 16, 4);
         due.noState("15: there are 256 blocks", () -> x.give(4));
         due.is("15: the bound doesn't count", () -> x.room(4), (1 << 20) - 256);
         due.noArgument("15: no words, with 256 blocks", () -> x.room(0));
@@ -449,5 +490,21 @@ public final class BookEdgeTests {
             due.same("15: lopsided, " + w + " words", "" + room, "" + given);
             due.is("15: then none", () -> x.room(words), 0);
         }
+    }
+
+    private static void roomOfAll24Classes() {
+        Roof x = Roof.chain(0);
+        int[][] whole = {{1, 24}, {4, 24}, {5, 1}, {8, 1}, {95, 1}, {96, 1}, {97, 0}};
+        for (int[] each : whole) {
+            due.is("15: in 24 classes, " + each[0] + " words", () -> x.room(each[0]), each[1]);
+        }
+        x.give(4);
+        int[][] less = {{4, 23}, {5, 1}, {92, 1}, {93, 0}, {96, 0}};
+        for (int[] each : less) {
+            due.is("15: in 23 of them, " + each[0] + " words", () -> x.room(each[0]), each[1]);
+        }
+        x.free(92);
+        x.give(96);
+        due.is("15: in none of them", () -> x.room(1), 0);
     }
 }

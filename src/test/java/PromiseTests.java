@@ -324,12 +324,7 @@ public final class PromiseTests {
     private static void deepestPaths() {
         for (int side = 0; side <= 1; side++) {
             int taken = side;
-            Roof x = new Roof();
-            x.row(1, 4, 0, 0);
-            x.row(2, 8, 1, 1);
-            for (int k = 3; k <= 24; k++) {
-                x.row(k, 4 * k, taken == 0 ? k - 1 : 1, taken == 0 ? 1 : k - 1);
-            }
+            Roof x = Roof.chain(side);
             due.is("4: a chain of 24", () -> x.build(24), 24);
             due.is("15: room in the chain", () -> x.room(1), 24);
             due.is("15: room for 8 words", () -> x.room(8), 1);

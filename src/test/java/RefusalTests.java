@@ -202,12 +202,7 @@ public final class RefusalTests {
         x.keep(2, 255);
         x.giveTimes(2, 8);
         x.freeAll(0, 8);
-        for (int i = 0; i < 64; i++) {
-            x.load(i, 9);
-        }
-        for (int i = 0; i < 4; i++) {
-            x.replay(64);
-        }
+        x.giveByScript(64, 4, 9);
         return x;
     }
 

@@ -18,6 +18,17 @@ final class Roof {
         return x;
     }
 
+    /** Class k, of 4 k words, is of class k - 1 at a side (0 left, 1 right) and class 1 at the other; the top is 24. */
+    static Roof chain(int side) {
+        Roof x = new Roof();
+        x.row(1, 4, 0, 0);
+        for (int k = 2; k <= 24; k++) {
+            x.row(k, 4 * k, side == 0 ? k - 1 : 1, side == 0 ? 1 : k - 1);
+        }
+        x.build(24);
+        return x;
+    }
+
     int callsLeft() {
         return MOST_CALLS - calls;
     }
@@ -97,6 +108,16 @@ final class Roof {
     void giveTimes(int times, int w) {
         for (int i = 0; i < times; i++) {
             give(w);
+        }
+    }
+
+    /** Many blocks in few calls: so many entries of the script give w words each, and are replayed so many times. */
+    void giveByScript(int entries, int times, int w) {
+        for (int i = 0; i < entries; i++) {
+            load(i, w);
+        }
+        for (int i = 0; i < times; i++) {
+            replay(entries);
         }
     }
 

@@ -18,6 +18,7 @@ public final class RuleEdgeTests {
         familyKinds();
         familyLengths();
         familyOthersBecome0();
+        familyOthersHaveNoSize();
         familyLeafSizes();
         familySecondLeaf();
         halvesUpToTheGreatestSize();
@@ -42,7 +43,10 @@ public final class RuleEdgeTests {
             due.is("1: row " + k + " is 0", () -> x.build(top), -top);
         }
         x.row(5, 4, 4, 6);
-        due.is("1: rows of size 0 to the sides", () -> x.build(5), -5);
+        due.is("1: rows of size 0 to both sides", () -> x.build(5), -5);
+        x.row(4, 4, 0, 0);
+        x.row(5, 5, 4, 6);
+        due.is("1: a row of size 0, not 1, to one side", () -> x.build(5), -5);
     }
 
     private static void newHasNoMemory() {
@@ -202,6 +206,17 @@ public final class RuleEdgeTests {
                 }
             }
         }
+    }
+
+    private static void familyOthersHaveNoSize() {
+        Roof x = new Roof();
+        x.row(9, 1, 0, 0);
+        x.row(7, 5, 1, 9);
+        x.row(1, 4, 0, 0);
+        due.is("3: a side of size 1", () -> x.build(7), -9);
+        x.family(0, 1, 4, 0);
+        x.row(7, 5, 1, 9);
+        due.is("3: has size 0 then", () -> x.build(7), -7);
     }
 
     private static void familyLeafSizes() {

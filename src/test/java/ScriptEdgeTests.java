@@ -177,12 +177,7 @@ public final class ScriptEdgeTests {
         x.keep(2, 255);
         x.giveTimes(2, 8);
         x.freeAll(0, 8);
-        for (int i = 0; i < 51; i++) {
-            x.load(i, 9);
-        }
-        for (int i = 0; i < 5; i++) {
-            x.replay(51);
-        }
+        x.giveByScript(51, 5, 9);
         return x;
     }
 

@@ -500,22 +500,20 @@ public final class TermsTests {
     /** 1024 words in 256 blocks of class 1. */
     private static Roof fullOfLeaves() {
         Roof x = Roof.halves(9, 4);
-        for (int i = 0; i < 64; i++) {
-            x.load(i, 4);
-        }
-        for (int i = 0; i < 4; i++) {
-            due.is("64 blocks more", () -> x.replay(64), 0);
-        }
+        x.giveByScript(64, 4, 4);
+        due.is("256 leaves are given", () -> x.count(4), 256);
         return x;
     }
 
     private static void keeps255AndJoinsThe256th() {
         Roof x = fullOfLeaves();
         x.keep(1, 255);
-        for (int i = 0; i < 255; i++) {
+        x.free(0);
+        for (int i = 2; i < 255; i++) {
             x.free(4 * i);
         }
-        due.is("255 are kept", () -> x.nodes(1, 0), 255);
+        x.free(4);
+        due.is("255 are kept, though the last one's buddy is free", () -> x.nodes(1, 0), 255);
         due.is("without a join", () -> x.count(7), 0);
         x.free(1020);
         due.is("the 256th is joined with its buddy", () -> x.nodes(1, 0), 254);

@@ -31,6 +31,7 @@ public final class RuleEdgeTests {
         buildCountsTheReached();
         buildKeepsNothing();
         buildBeginsTheBooks();
+        buildForgetsTheOldNodes();
         aBadBuildChangesNothing();
         buildTellsTheLowestBad();
         due.close();
@@ -412,6 +413,23 @@ public final class RuleEdgeTests {
         due.is("4: a smaller one", () -> x.build(2), 2);
         due.counts("4: has its own words", x, "8 0 0 8 0 1 8 0 0 1");
         due.noArgument("4: and its own classes", () -> x.keep(3, 0));
+    }
+
+    private static void buildForgetsTheOldNodes() {
+        Roof x = Roof.halves(6, 4);
+        x.give(1);
+        x.free(0);
+        x.give(60);
+        due.is("4: built anew behind splits, joins and a block", () -> x.build(6), 6);
+        for (int i = 0; i < 32; i++) {
+            int address = 4 * i;
+            due.is("4: all of it is given, at " + address, () -> x.give(4), address);
+        }
+        due.counts("4: nothing of the old one is in the books", x, "128 128 0 0 32 0 0 0 31 0");
+        for (int i = 0; i < 32; i++) {
+            x.free(4 * i);
+        }
+        due.shows("4: all of it is joined", x, "0:6");
     }
 
     private static void aBadBuildChangesNothing() {

@@ -10,6 +10,7 @@ public final class WeightTests {
     public static void main(String[] args) {
         lightObjects();
         rebuilt();
+        splitAndJoined();
         rippedApart();
         due.close();
     }
@@ -48,6 +49,21 @@ public final class WeightTests {
         }
         lighter("what is built again and again", made() - before, ROOM_BYTES / 64);
         due.same("its answers", "" + sum, "" + 40 * (21 + (1 << 20) + (1 << 22) + 1));
+    }
+
+    // The most splits that 512 calls can ask for: were their nodes not used again, they would fill the room.
+    private static void splitAndJoined() {
+        Roof x = Roof.halves(21, 4);
+        for (int i = 0; i < 256; i++) {
+            x.load(i, i % 2 == 0 ? 1 : -i);
+        }
+        long before = made();
+        for (int i = 0; i < 250; i++) {
+            x.replay(256);
+        }
+        lighter("what is split and joined again and again", made() - before, ROOM_BYTES / 64);
+        due.is("its splits", () -> x.count(8), 250 * 128 * 20);
+        due.is("its joins", () -> x.count(7), 250 * 128 * 20);
     }
 
     // Chains that leave a small node behind at each step, kept apart in all sizes.

@@ -547,6 +547,9 @@ public final class BuddyRoof {
 
         /** Splits a free node in two free ones. What lies above is told by refreshAbove. */
         void split(int node, int leftClass, int rightClass, int leftSize) {
+            if (spare == NONE && made + 2 > parent.length) {
+                grow(parent.length * 2);
+            }
             int pair = takePair();
             put(pair, node, leftClass, address[node]);
             put(pair + 1, node, rightClass, address[node] + leftSize);
@@ -558,7 +561,9 @@ public final class BuddyRoof {
             int pair = child[node];
             parent[pair] = spare;
             spare = pair;
-            put(node, parent[node], kind[node], address[node]);
+            child[node] = NONE;
+            unsplit[node] = 1;
+            summary[node] = 1 << kind[node];
         }
 
         /** A request of 0 makes an unsplit node a free one. */
@@ -599,9 +604,6 @@ public final class BuddyRoof {
             }
             pair = made;
             made += 2;
-            if (made > parent.length) {
-                grow(parent.length * 2);
-            }
             return pair;
         }
 

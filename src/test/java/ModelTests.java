@@ -11,12 +11,14 @@ public final class ModelTests {
     private final String title;
     private final Roof real = new Roof();
     private final NaiveRoof naive = new NaiveRoof();
+    private final boolean great;
     private int words = 64;
     private int likelyTop = 1;
 
     private ModelTests(long seed) {
         dice = new Random(seed);
         title = "seed " + seed;
+        great = seed % 4 == 0;
     }
 
     public static void main(String[] args) {
@@ -64,7 +66,8 @@ public final class ModelTests {
             return;
         }
         int kind = dice.nextInt(3);
-        int n = kind == 0 ? 1 + dice.nextInt(9) : kind == 1 ? 1 + dice.nextInt(13) : 1 + dice.nextInt(18);
+        int most = kind == 0 ? (great ? 20 : 9) : great ? 24 : kind == 1 ? 13 : 18;
+        int n = most - dice.nextInt(great ? 6 : most);
         int a = 4 + dice.nextInt(9);
         int b = 4 + dice.nextInt(9);
         likelyTop = n;
@@ -90,7 +93,7 @@ public final class ModelTests {
             int right = i <= leaves ? 0 : order[1 + dice.nextInt(i - 1)];
             int k = order[i];
             size[k] = left == 0 ? 4 + dice.nextInt(8) : size[left] + size[right];
-            if (size[k] > 4000) {
+            if (size[k] > (great ? Roof.MOST_WORDS : 4000)) {
                 left = 0;
                 right = 0;
                 size[k] = 5;
@@ -133,6 +136,11 @@ public final class ModelTests {
         };
     }
 
+    // NaiveRoof gives the words one by one, so they must not be too few for a great memory.
+    private int roomy(int w) {
+        return w < 1 || w > words ? w : w + words / 1024;
+    }
+
     private int someAddress() {
         String many = Due.answer(() -> naive.count(4));
         String all = Due.answer(() -> naive.count(5));
@@ -168,7 +176,7 @@ public final class ModelTests {
                     () -> real.block(address, which), () -> naive.block(address, which));
         } else if (what < 145) {
             int address = someAddress();
-            int i = dice.nextInt(10) - 1;
+            int i = dice.nextInt(great ? 25 : 10) - 1;
             both("path(" + address + ", " + i + ")", () -> real.path(address, i), () -> naive.path(address, i));
         } else if (what < 153) {
             int many = dice.nextInt(4) == 0 ? dice.nextInt(258) - 1 : dice.nextInt(6);
@@ -184,7 +192,8 @@ public final class ModelTests {
             int number = dice.nextInt(12) - 1;
             both("count(" + number + ")", () -> real.count(number), () -> naive.count(number));
         } else {
-            both("room(" + w + ")", () -> real.room(w), () -> naive.room(w));
+            int r = roomy(w);
+            both("room(" + r + ")", () -> real.room(r), () -> naive.room(r));
         }
     }
 
@@ -201,7 +210,8 @@ public final class ModelTests {
         both("nodes(" + a + ", " + b + ")", () -> real.nodes(a, b), () -> naive.nodes(a, b));
         both("leaf(" + a + ", " + b + ")", () -> real.leaf(a, b), () -> naive.leaf(a, b));
         both("count(" + a + ")", () -> real.count(a), () -> naive.count(a));
-        both("room(" + a + ")", () -> real.room(a), () -> naive.room(a));
+        int r = roomy(a);
+        both("room(" + r + ")", () -> real.room(r), () -> naive.room(r));
         bothDo("load(" + a + ", " + b + ")", () -> real.load(a, b), () -> naive.load(a, b));
         both("replay(" + a + ")", () -> real.replay(a), () -> naive.replay(a));
         both("build(" + a + ")", () -> real.build(a), () -> naive.build(a));
@@ -232,7 +242,7 @@ public final class ModelTests {
             both("nodes(" + k + ", " + what + ")", () -> real.nodes(of, what), () -> naive.nodes(of, what));
         }
         for (int bits = 0; bits < 8; bits++) {
-            int w = 1 << bits;
+            int w = roomy(1 << bits);
             both("room(" + w + ")", () -> real.room(w), () -> naive.room(w));
         }
         for (int i = 0; real.callsLeft() >= 3; i++) {
